@@ -26,11 +26,15 @@ public final class AgainstTreeMapTest {
     public static void main(String[] args) {
         for (int run = 0; run < RUNS; run++) {
             AgainstTreeMapTest test = new AgainstTreeMapTest(run);
-            for (int call = 0; call < CALLS; call++) {
-                test.oneCall();
-            }
+            Check.test("run " + run, test::oneRun);
         }
         Check.end();
+    }
+
+    private void oneRun() {
+        for (int call = 0; call < CALLS; call++) {
+            oneCall();
+        }
     }
 
     private void oneCall() {

@@ -10,8 +10,23 @@ final class Check {
     static final int STATE = -1002;
 
     private static int wrong = 0;
+    private static int tests = 0;
 
     private Check() {
+    }
+
+    /** Runs one test under its name, so that a failure tells which case is broken. */
+    static void test(String name, Runnable body) {
+        int before = wrong;
+        tests++;
+        try {
+            body.run();
+        } catch (RuntimeException e) {
+            unexpected(e);
+        }
+        if (wrong != before) {
+            System.out.println("^ in the test: " + name);
+        }
     }
 
     static void due(String call, int got, int want) {
@@ -78,6 +93,29 @@ final class Check {
         return outcome(() -> x.change(directory, n, id));
     }
 
+    /** Name i of the 48 that fill() adds: they rise with i. */
+    static String fullName(int i) {
+        return "n" + (char) ('A' + i);
+    }
+
+    /** Fills an empty directory; name i gets the id 101 + i, and comes neither first nor last. */
+    static void fill(HashedNames x, int directory) {
+        for (int i = 0; i < 48; i++) {
+            int which = (i * 5 + 17) % 48;
+            due("add name " + which, add(x, directory, fullName(which), 101 + which), i + 1);
+        }
+    }
+
+    /** That a directory has these names, told in this order, with ids rising from the first one. */
+    static void dueNames(HashedNames x, int directory, int firstId, String... names) {
+        due("size(" + directory + ")", outcome(() -> x.size(directory)), names.length);
+        for (int k = 0; k < names.length; k++) {
+            dueNth(x, directory, k, names[k]);
+            due("find " + names[k], find(x, directory, names[k]), firstId + k);
+        }
+        due("nth behind the last", outcome(() -> x.nth(directory, names.length)), -1);
+    }
+
     /** That nth() answers this name's length and byteAt() its bytes and nothing behind them. */
     static void dueNth(HashedNames x, int directory, int k, String name) {
         due("nth(" + directory + ", " + k + ")", outcome(() -> x.nth(directory, k)), name.length());
@@ -94,10 +132,11 @@ final class Check {
     }
 
     static void end() {
-        if (wrong != 0) {
-            System.out.println(wrong + " answers are not as due");
+        if (wrong != 0 || tests == 0) {
+            System.out.println(wrong + " answers are not as due in " + tests + " tests");
             System.exit(1);
         }
+        System.out.println(tests + (tests == 1 ? " test" : " tests"));
     }
 
     private static int unexpected(RuntimeException e) {

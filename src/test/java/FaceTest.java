@@ -22,6 +22,11 @@ public final class FaceTest {
             "public int HashedNames.byteAt(int) throws java.lang.IllegalArgumentException");
 
     public static void main(String[] args) {
+        Check.test("the face", FaceTest::theFace);
+        Check.end();
+    }
+
+    private static void theFace() {
         Set<String> seen = new TreeSet<>();
         for (Constructor<?> c : HashedNames.class.getDeclaredConstructors()) {
             note(seen, c.getModifiers(), c.toString());
@@ -41,7 +46,6 @@ public final class FaceTest {
         int modifiers = HashedNames.class.getModifiers();
         Check.due("public and final", modifiers & (Modifier.PUBLIC | Modifier.FINAL),
                 Modifier.PUBLIC | Modifier.FINAL);
-        Check.end();
     }
 
     private static void note(Set<String> seen, int modifiers, String member) {

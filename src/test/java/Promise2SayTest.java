@@ -1,10 +1,8 @@
 /** Promise 2: say() tells twenty bytes, the highest of each int first, and they stay. */
 public final class Promise2SayTest {
     public static void main(String[] args) {
-        bytesComeHighestFirst();
-        theHandStays();
-        aNewNameReplacesTheWhole();
-        anythingMayBeSaid();
+        Check.test("bytes come highest first", Promise2SayTest::bytesComeHighestFirst);
+        Check.test("the hand stays", Promise2SayTest::theHandStays);
         Check.end();
     }
 
@@ -32,22 +30,5 @@ public final class Promise2SayTest {
         Check.due("nth of a shorter name", x.nth(0, 0), 2);
         Check.refusesArgument("find(0, 6)", () -> x.find(0, 6));
         Check.due("find of the whole name", x.find(1, 5), 3);
-    }
-
-    private static void aNewNameReplacesTheWhole() {
-        HashedNames x = new HashedNames();
-        Check.say(x, "abcdefghijklmnopqrst");
-        Check.due("add", x.add(0, 20, 1), 1);
-        Check.say(x, "abcd");
-        Check.refusesArgument("find(0, 5)", () -> x.find(0, 5));
-        Check.due("find(0, 4)", x.find(0, 4), -1);
-    }
-
-    private static void anythingMayBeSaid() {
-        HashedNames x = new HashedNames();
-        x.say(-1, Integer.MIN_VALUE, Integer.MAX_VALUE, 0, 0x2F2F2F2F);
-        Check.due("add of four bytes 255", x.add(7, 4, 9), 1);
-        Check.due("add with a byte 128", x.add(7, 5, 9), 2);
-        Check.refusesArgument("add with a byte 0", () -> x.add(7, 6, 9));
     }
 }

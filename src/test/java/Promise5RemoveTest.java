@@ -1,9 +1,8 @@
 /** Promise 5: remove() takes a name away and answers the id that it had. */
 public final class Promise5RemoveTest {
     public static void main(String[] args) {
-        theNameGoes();
-        theOthersStay();
-        badArgumentsAreRefused();
+        Check.test("the name goes", Promise5RemoveTest::theNameGoes);
+        Check.test("the others stay", Promise5RemoveTest::theOthersStay);
         Check.end();
     }
 
@@ -54,21 +53,5 @@ public final class Promise5RemoveTest {
 
     private static String text(int i) {
         return "f" + (char) ('a' + i / 10) + (char) ('0' + i % 10);
-    }
-
-    private static void badArgumentsAreRefused() {
-        HashedNames x = new HashedNames();
-        Check.add(x, 0, "a", 5);
-        Check.say(x, "abcdefghijklmnopqrst");
-        for (int bad : new int[] {-1, 8, Integer.MIN_VALUE, Integer.MAX_VALUE}) {
-            Check.refusesArgument("remove from directory " + bad, () -> x.remove(bad, 1));
-        }
-        for (int bad : new int[] {0, -1, 21, Integer.MIN_VALUE, Integer.MAX_VALUE}) {
-            Check.refusesArgument("remove of length " + bad, () -> x.remove(0, bad));
-        }
-        Check.due("remove a/", Check.remove(x, 0, "a/"), Check.ARGUMENT);
-        Check.due("remove with a byte 0", Check.remove(x, 0, "a\u0000"), Check.ARGUMENT);
-        Check.due("size", x.size(0), 1);
-        Check.due("find", Check.find(x, 0, "a"), 5);
     }
 }
