@@ -16,6 +16,7 @@ public final class Boundary9ByteAtTest {
         Check.test("after an nth() of -1", Boundary9ByteAtTest::afterNone);
         Check.test("an nth() after one of -1", Boundary9ByteAtTest::nthAfterNone);
         Check.test("the latest nth() of several directories", Boundary9ByteAtTest::latestNth);
+        Check.test("each other call since then", Boundary9ByteAtTest::otherCalls);
         Check.test("its name goes", Boundary9ByteAtTest::itsNameGoes);
         Check.test("another name gets its place", Boundary9ByteAtTest::anotherGetsItsPlace);
         Check.test("the name at hand is another", Boundary9ByteAtTest::handIsAnother);
@@ -143,6 +144,22 @@ public final class Boundary9ByteAtTest {
         Check.dueNth(x, 0, 0, "first");
         Check.dueNth(x, 7, 0, "second");
         Check.dueNth(x, 0, 0, "first");
+        Check.dueTold(x, "first");
+    }
+
+    private static void otherCalls() {
+        HashedNames x = new HashedNames();
+        Check.add(x, 0, "first", 1);
+        Check.dueNth(x, 0, 0, "first");
+        Check.due("add", Check.add(x, 0, "earlier", 2), 2);
+        Check.dueTold(x, "first");
+        Check.due("find", Check.find(x, 0, "earlier"), 2);
+        Check.dueTold(x, "first");
+        Check.due("change", Check.change(x, 0, "earlier", 3), 2);
+        Check.dueTold(x, "first");
+        Check.due("size", x.size(0), 2);
+        Check.dueTold(x, "first");
+        Check.due("remove", Check.remove(x, 0, "earlier"), 3);
         Check.dueTold(x, "first");
     }
 
