@@ -23,6 +23,8 @@ public final class FaceTest {
 
     public static void main(String[] args) {
         Check.test("the face", FaceTest::theFace);
+        Check.test("the class stands alone", FaceTest::standsAlone);
+        Check.test("no private method has a public one's name", FaceTest::noNameTwice);
         Check.end();
     }
 
@@ -46,6 +48,23 @@ public final class FaceTest {
         int modifiers = HashedNames.class.getModifiers();
         Check.due("public and final", modifiers & (Modifier.PUBLIC | Modifier.FINAL),
                 Modifier.PUBLIC | Modifier.FINAL);
+    }
+
+    private static void standsAlone() {
+        Check.due("length of the package's name", HashedNames.class.getPackageName().length(), 0);
+        Check.due("extends nothing", HashedNames.class.getSuperclass() == Object.class ? 1 : 0, 1);
+        Check.due("interfaces", HashedNames.class.getInterfaces().length, 0);
+    }
+
+    private static void noNameTwice() {
+        Set<String> names = new TreeSet<>();
+        for (Method m : HashedNames.class.getMethods()) {
+            names.add(m.getName());
+        }
+        for (Method m : HashedNames.class.getDeclaredMethods()) {
+            boolean hidden = Modifier.isPrivate(m.getModifiers());
+            Check.due("is public and private: " + m, hidden && names.contains(m.getName()) ? 1 : 0, 0);
+        }
     }
 
     private static void note(Set<String> seen, int modifiers, String member) {
