@@ -47,7 +47,7 @@ public final class RowsTest {
         HashedNames x = new HashedNames();
         HashedNames y = new HashedNames();
         for (Field field : HashedNames.class.getDeclaredFields()) {
-            if (field.getType().isArray()) {
+            if (field.getType().isArray() && !Modifier.isStatic(field.getModifiers())) {
                 Check.due(field + " is shared", row(field, x) == row(field, y) ? 1 : 0, 0);
             }
         }
